@@ -6,7 +6,7 @@ import java.util.Map;
  * Runs of 512 calls, made up from fixed seeds, on a LongNoon and on a PlainNoon: each answer must be the same.
  */
 public final class PlainRunsTest {
-    private static final int RUNS = 500;
+    private static final int RUNS = 400;
     private static final int CALLS = 512;
 
     /** Each call with what its numbers are: see draw(). */
@@ -129,6 +129,39 @@ public final class PlainRunsTest {
         both(x, p, "ground");
     }
 
+    /** Tells a tape the heat of each house, one of them perhaps otherwise, and has it judged. */
+    private static void tellHeat(LongNoon x, PlainNoon p) throws Exception {
+        long tape = random(6);
+        long from = random(4);
+        both(x, p, "tape", tape, 1L, from + random(8));
+        int other = random(12);
+        for (int h = 0; h < 6; h++) {
+            long heat = both(x, p, "of", (long) h, 2L);
+            both(x, p, "item", tape, from + h, heat + (h == other ? 1 : 0));
+        }
+        both(x, p, "judge", tape, from);
+        both(x, p, "shift", tape, from, tape, draw('4'), draw('4'));
+        both(x, p, "read", tape, draw('9'));
+        both(x, p, "judge", tape, draw('4'));
+    }
+
+    /** Tells what the store of a house will hold if it leaks otherwise, and asks how it leaks. */
+    private static void tellSeen(LongNoon x, PlainNoon p) throws Exception {
+        long house = random(6);
+        long was = both(x, p, "set", house, 2L, (long) random(10));
+        for (int n = random(4); n >= 0; n--) {
+            long day = random(31);
+            long holds = both(x, p, "on", house, day, 1L);
+            both(x, p, "see", random(5) == 0 ? draw('H') : house, day, holds);
+        }
+        both(x, p, "leaks", house);
+        both(x, p, "set", house, 2L, was);
+        both(x, p, "leaks", house);
+        if (random(3) == 0) {
+            both(x, p, "see", -1L, 0L, 0L);
+        }
+    }
+
     private static void run(int number) throws Exception {
         seed = number;
         random(2);
@@ -147,6 +180,14 @@ public final class PlainRunsTest {
         while (left > 0 && wrong == before) {
             if (random(60) == 0) {
                 ground(x, p);
+                continue;
+            }
+            if (random(40) == 0) {
+                tellHeat(x, p);
+                continue;
+            }
+            if (random(40) == 0) {
+                tellSeen(x, p);
                 continue;
             }
             String[] call = CALLED[random(CALLED.length)];

@@ -327,6 +327,15 @@ public final class PromisesTest {
         holds("!(k=1|v=6)|v=7&!e=4", true);
         holds("!(k=1&v=7)|(s=2&!e=3)", false);
 
+        LongNoon tens = on("sun 1 e=4;sun 2 e=3;sun 4 e=19;sun 8 s=1;sun 16 s=0;sun 32 s=10");
+        tens.house(5, 9, 39, 99);
+        int[][] byTens = {{39, 9, 18}, {40, 10, 9}, {199, 0, 20}, {0, 19, 8}, {49, 108, 33}};
+        for (int[] by : byTens) {
+            tens.set(0, 0, by[0]);
+            tens.set(0, 1, by[1]);
+            due("e of " + by[0] + ", s of " + by[1], tens.of(0, 7), by[2]);
+        }
+
         LongNoon x = new LongNoon();
         due("low 1", ground(x, "low 1"), 0);
         due("low x", ground(x, "low x"), -14);
@@ -413,6 +422,9 @@ public final class PromisesTest {
         due("low above high", x.day(), 3);
         due("gives until high, and is below low", x.of(0, 2), 30);
         due("takes until low, and is above high", x.of(1, 2), 50);
+        x.set(1, 0, 30);
+        x.day();
+        due("at high, and below low", x.of(1, 2), 50);
         x = new LongNoon();
         days(x, 9999);
         due("day 9999", x.told(0), 9999);
@@ -565,6 +577,11 @@ public final class PromisesTest {
         most.set(0, 2, 2);
         due("it leaks until the cold", most.heat(0, 0), 140);
         due("and until the next", most.heat(0, 1), 14);
+        LongNoon dark = on("sun 0 h<9;cold 13 m<21;cold 0 h<9;low 99;high 99");
+        days(dark, 14);
+        dark.house(0, 0, 0, 0);
+        due("only 190 comes to 99", dark.heat(0, 0), 190);
+        due("fine on days 7 to 28", dark.heat(0, 1), 34);
         due("what below", y.heat(0, -1), NONE);
         due("what above", y.heat(0, 2), NONE);
         due("no house", y.heat(1, 0), NONE);
@@ -686,11 +703,17 @@ public final class PromisesTest {
         z.set(0, 0, 10);
         due("28 is one: days 28 and 32", z.turn(0, 0), 28);
         due("none is left", z.turn(0, 1), 0);
-        LongNoon v = on("sun 0 h<9;cold 99 h<9;low 0;high 50");
-        v.house(4, 9, 0, 99);
-        v.day();
-        due("v comes all the same", v.turn(0, 0), 1);
-        due("sun of 0 is no less", v.of(0, 9), 9);
+        LongNoon late = on("sun 15 m=0|m=4;cold 0 h<9;low 20;high 50");
+        late.house(0, 0, 10, 0);
+        due("29 is none: days 29 and 33", late.turn(0, 0), 2);
+        due("on how many", late.turn(0, 1), 24);
+        late.set(0, 0, 199);
+        due("amiss all the same", late.turn(0, 0), 1);
+        due("on all", late.turn(0, 1), 56);
+        LongNoon oven = on("sun 30 m<5;cold 0 h<9;low 0;high 59");
+        oven.house(4, 1, 0, 0);
+        due("without sun v comes all the same", oven.turn(0, 0), 1);
+        due("1 a day, and 60 on day 29", oven.turn(0, 1), 28);
     }
 
     private static void promise19() {
@@ -707,6 +730,10 @@ public final class PromisesTest {
         due("no house", x.alike(0, 4), NONE);
         due("no house", x.alike(4, 0), NONE);
         due("none ahead of bad", x.alike(-1, -1), NONE);
+        ground(x, "sun 11 m=7&h=0;cold 0 h<9;low 20;high 50");
+        due("51 from day 8", x.alike(0, 1), 21);
+        due("51 from day 8", x.alike(1, 0), 21);
+        ground(x, "sun 20 m=7;cold 0 h<9;low 20;high 50");
         x.day();
         due("from now on", x.alike(0, 2), 6);
         due("asked changes nothing", x.told(0), 1);
@@ -774,6 +801,12 @@ public final class PromisesTest {
         y.see(0, 2, 24);
         y.day();
         due("from the now of the asking", y.leaks(0), 1 << 3);
+        y = on("sun 5 m=3;cold 0 h<9;low 20;high 20");
+        y.house(0, 0, 20, 99);
+        y.set(0, 1, 7);
+        y.see(0, 4, 5);
+        y.see(0, 5, 3);
+        due("filled again on day 4", y.leaks(0), 1 << 2);
     }
 
     private static void promise22() {
@@ -792,6 +825,13 @@ public final class PromisesTest {
         due("asked changes nothing", x.of(0, 3), 61);
         x.day();
         due("from now on", x.dry(0), 60);
+        LongNoon y = on("sun 5 m=3;cold 0 h<9;low 20;high 20");
+        y.house(0, 0, 20, 99);
+        y.set(0, 1, 7);
+        y.set(0, 2, 2);
+        due("filled again on day 4", y.dry(0), 7);
+        y.day();
+        due("from now on", y.dry(0), 6);
         due("no house", x.dry(1), NONE);
         due("no house", x.dry(-1), NONE);
     }
@@ -857,6 +897,11 @@ public final class PromisesTest {
         due("n above", x.mean(61, 0), NO);
         due("part below", x.mean(1, -1), NO);
         due("part above", x.mean(1, 2), NO);
+        x = new LongNoon();
+        x.house(0, 0, 50, 40);
+        days(x, 13);
+        x.set(0, 0, 50);
+        mean(x, 2, 55, 1);
         LongNoon still = on(STILL);
         still.house(0, 0, 0, 0);
         mean(still, 60, 0, 1);
@@ -907,6 +952,11 @@ public final class PromisesTest {
         x.book(2);
         due("the second", x.looked(), 1);
         due("asked changes nothing", x.count(3), 2);
+        ground(x, "sun 11 m=2;cold 0 h<9;low 20;high 50");
+        x.set(0, 0, 40);
+        x.book(-1);
+        x.book(0);
+        due("51 on day 1", x.looked(), NEVER);
     }
 
     private static void promise27() {
@@ -1156,8 +1206,10 @@ public final class PromisesTest {
         due("one more", x.item(0, 60, 7), PLACE);
         due("a row of 0", x.tape(5, 4, 0), 1);
         due("no item", x.item(5, 0, 7), PLACE);
+        x.item(0, 0, 7);
         due("anew", x.tape(0, 3, 60), 1);
         due("all 0", x.read(0, 59), 0);
+        due("all 0", x.read(0, 0), 0);
         x.item(0, 3, 7);
         due("size does not change it", x.tape(0, 0, MIN), SIZE);
         due("still there", x.read(0, 3), 7);
