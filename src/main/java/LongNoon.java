@@ -1017,6 +1017,7 @@ public final class LongNoon {
             char first = nextSign();
             boolean isSun = first == 's';
             boolean isLow = first == 'l';
+            // Another byte begins no "high " either: reading that finds the fault at its place.
             String word = isSun ? "sun " : first == 'c' ? "cold " : isLow ? "low " : "high ";
             int n = readWord(word) ? readNumber() : -1;
             if (n < 0) {
