@@ -506,7 +506,7 @@ public final class LongNoon {
         if (h == null || !within(act, 2)) {
             return 0;
         }
-        return player.call(h, h.kind, act, x, 0);
+        return player.play(h, act, x);
     }
 
     public int trace(int i) {
@@ -1144,8 +1144,12 @@ public final class LongNoon {
             ran = 0;
         }
 
+        int play(House h, int act, int x) {
+            return call(h, h.kind, act, x, 0);
+        }
+
         /** Runs the body that the KIND, or the next above it that has one, has for the act. */
-        int call(House h, int kind, int act, int x, int depth) {
+        private int call(House h, int kind, int act, int x, int depth) {
             int at = kind;
             for (int up = 0; up < ABOVE.length && at >= 0 && at < ABOVE.length; up++) {
                 int place = 3 * at + act;

@@ -1,7 +1,3 @@
-import java.lang.reflect.Method;
-import java.util.LinkedHashMap;
-import java.util.Map;
-
 /**
  * Runs of 512 calls, made up from fixed seeds, on a LongNoon and on a PlainNoon: each answer must be the same.
  */
@@ -97,97 +93,68 @@ public final class PlainRunsTest {
         return text.toString();
     }
 
-    private static int wrong = 0;
-    private static int left = 0;
-    private static final Map<String, Method[]> METHODS = new LinkedHashMap<>();
-    private static final StringBuilder TOLD = new StringBuilder();
-
-    private static long both(LongNoon x, PlainNoon p, String call, Object... with) throws Exception {
-        Method[] m = METHODS.get(call);
-        Class<?>[] types = m[0].getParameterTypes();
-        Object[] cast = new Object[with.length];
-        for (int i = 0; i < with.length; i++) {
-            long n = (Long) with[i];
-            cast[i] = types[i] == int.class ? (Object) (int) n : (Object) n;
-        }
-        long got = ((Number) m[0].invoke(x, cast)).longValue();
-        long due = ((Number) m[1].invoke(p, cast)).longValue();
-        TOLD.append(call).append(java.util.Arrays.toString(cast)).append(" = ").append(got).append('\n');
-        left--;
-        if (got != due) {
-            wrong++;
-            System.out.println(TOLD + "due is " + due);
-        }
-        return got;
-    }
-
-    private static void ground(LongNoon x, PlainNoon p) throws Exception {
+    private static void ground(Pair p) {
         String text = text();
-        for (int i = 0; i < text.length() && left > 1; i++) {
-            both(x, p, "feed", (long) text.charAt(i));
-        }
-        both(x, p, "ground");
+        p.feed(text.substring(0, Math.max(0, Math.min(text.length(), CALLS - 1 - p.calls()))));
+        p.call("ground");
     }
 
     /** Tells a tape the heat of each house, one of them perhaps otherwise, and has it judged. */
-    private static void tellHeat(LongNoon x, PlainNoon p) throws Exception {
+    private static void tellHeat(Pair p) {
         long tape = random(6);
         long from = random(4);
-        both(x, p, "tape", tape, 1L, from + random(8));
+        p.call("tape", tape, 1L, from + random(8));
         int other = random(12);
         for (int h = 0; h < 6; h++) {
-            long heat = both(x, p, "of", (long) h, 2L);
-            both(x, p, "item", tape, from + h, heat + (h == other ? 1 : 0));
+            long heat = p.call("of", (long) h, 2L);
+            p.call("item", tape, from + h, heat + (h == other ? 1 : 0));
         }
-        both(x, p, "judge", tape, from);
-        both(x, p, "shift", tape, from, tape, draw('4'), draw('4'));
-        both(x, p, "read", tape, draw('9'));
-        both(x, p, "judge", tape, draw('4'));
+        p.call("judge", tape, from);
+        p.call("shift", tape, from, tape, draw('4'), draw('4'));
+        p.call("read", tape, draw('9'));
+        p.call("judge", tape, draw('4'));
     }
 
     /** Tells what the store of a house will hold if it leaks otherwise, and asks how it leaks. */
-    private static void tellSeen(LongNoon x, PlainNoon p) throws Exception {
+    private static void tellSeen(Pair p) {
         long house = random(6);
-        long was = both(x, p, "set", house, 2L, (long) random(10));
+        long was = p.call("set", house, 2L, (long) random(10));
         for (int n = random(4); n >= 0; n--) {
             long day = random(31);
-            long holds = both(x, p, "on", house, day, 1L);
-            both(x, p, "see", random(5) == 0 ? draw('H') : house, day, holds);
+            long holds = p.call("on", house, day, 1L);
+            p.call("see", random(5) == 0 ? draw('H') : house, day, holds);
         }
-        both(x, p, "leaks", house);
-        both(x, p, "set", house, 2L, was);
-        both(x, p, "leaks", house);
+        p.call("leaks", house);
+        p.call("set", house, 2L, was);
+        p.call("leaks", house);
         if (random(3) == 0) {
-            both(x, p, "see", -1L, 0L, 0L);
+            p.call("see", -1L, 0L, 0L);
         }
     }
 
-    private static void run(int number) throws Exception {
+    /** Whether all answers of the run are the same. */
+    private static boolean run(int number) {
         seed = number;
         random(2);
-        TOLD.setLength(0);
-        LongNoon x = new LongNoon();
-        PlainNoon p = new PlainNoon();
-        left = CALLS;
+        Pair p = new Pair();
         if (number % 5 != 0) {
-            ground(x, p);
+            ground(p);
         }
         for (int n = 0; n < number % 7; n++) {
-            both(x, p, "house", draw('k'), draw('9'), draw('h'), draw('c'));
-            both(x, p, "set", (long) n, 1L, draw('c'));
+            p.call("house", draw('k'), draw('9'), draw('h'), draw('c'));
+            p.call("set", (long) n, 1L, draw('c'));
         }
-        int before = wrong;
-        while (left > 0 && wrong == before) {
+        while (p.calls() < CALLS && !p.differs()) {
             if (random(60) == 0) {
-                ground(x, p);
+                ground(p);
                 continue;
             }
             if (random(40) == 0) {
-                tellHeat(x, p);
+                tellHeat(p);
                 continue;
             }
             if (random(40) == 0) {
-                tellSeen(x, p);
+                tellSeen(p);
                 continue;
             }
             String[] call = CALLED[random(CALLED.length)];
@@ -195,27 +162,23 @@ public final class PlainRunsTest {
             if (call[0].equals("undo") && random(4) != 0) {
                 continue;
             }
-            Object[] with = new Object[call[1].length()];
+            long[] with = new long[call[1].length()];
             for (int i = 0; i < with.length; i++) {
                 with[i] = draw(call[1].charAt(i));
             }
-            both(x, p, call[0], with);
+            p.call(call[0], with);
         }
+        return !p.differs();
     }
 
-    public static void main(String[] args) throws Exception {
-        for (Method m : LongNoon.class.getDeclaredMethods()) {
-            if (java.lang.reflect.Modifier.isPublic(m.getModifiers())) {
-                METHODS.put(m.getName(),
-                    new Method[] {m, PlainNoon.class.getMethod(m.getName(), m.getParameterTypes())});
-            }
-        }
+    public static void main(String[] args) {
         int runs = args.length > 0 ? Integer.parseInt(args[0]) : RUNS;
-        for (int n = 0; n < runs && wrong == 0; n++) {
-            run(n);
+        boolean same = true;
+        for (int n = 0; n < runs && same; n++) {
+            same = run(n);
         }
-        System.out.println(wrong == 0 ? runs + " runs: every answer is as PlainNoon's" : "PlainNoon answers otherwise");
-        if (wrong != 0) {
+        System.out.println(same ? runs + " runs: every answer is as PlainNoon's" : "PlainNoon answers otherwise");
+        if (!same) {
             System.exit(1);
         }
     }

@@ -2,46 +2,7 @@
  * Each promise of DOC.md, with answers reckoned by hand from its words: ordinary calls, the edges that it
  * names, and wrong numbers.
  */
-public final class PromisesTest {
-    private static final int NONE = -1, BAD = -2, STATE = -3, FULL = -4, NEVER = -5;
-    private static final int NOTHING = -11, CAST = -12, PLACE = -13, SIZE = -14;
-    private static final long NO = Long.MIN_VALUE;
-    private static final int MIN = Integer.MIN_VALUE, MAX = Integer.MAX_VALUE;
-
-    /** Neither sun nor cold: what is warm stays so. */
-    private static final String STILL = "sun 0 h<9;cold 0 h<9;low 30;high 50";
-
-    private static int wrong = 0;
-    private static int looked = 0;
-    private static int promise = 0;
-
-    private static void due(String what, long got, long want) {
-        looked++;
-        if (got != want) {
-            wrong++;
-            System.out.println("promise " + promise + ": " + what + " answered " + got + ", due is " + want);
-        }
-    }
-
-    private static int ground(LongNoon x, String text) {
-        for (int i = 0; i < text.length(); i++) {
-            x.feed(text.charAt(i));
-        }
-        return x.ground();
-    }
-
-    private static LongNoon on(String text) {
-        LongNoon x = new LongNoon();
-        due("ground " + text, ground(x, text), 0);
-        return x;
-    }
-
-    private static void days(LongNoon x, int n) {
-        for (int i = 0; i < n; i++) {
-            x.day();
-        }
-    }
-
+public final class PromisesTest extends Due {
     public static void main(String[] args) {
         Runnable[] promises = {
             PromisesTest::promise1, PromisesTest::promise2, PromisesTest::promise3, PromisesTest::promise4,
@@ -55,14 +16,10 @@ public final class PromisesTest {
             PromisesTest::promise33, PromisesTest::promise34, PromisesTest::promise35, PromisesTest::promise36,
             PromisesTest::promise37
         };
-        for (Runnable p : promises) {
-            promise++;
-            p.run();
+        for (int n = 0; n < promises.length; n++) {
+            says("promise " + (n + 1), promises[n]);
         }
-        System.out.println(wrong == 0 ? looked + " answers to 37 promises are as due" : wrong + " are not as due");
-        if (wrong != 0) {
-            System.exit(1);
-        }
+        end();
     }
 
     private static void promise1() {
@@ -228,14 +185,6 @@ public final class PromisesTest {
         due("bytes", x.count(4), 100);
         due("the first is no clause's", x.ground(), -10);
         due("empty then", x.feed('a'), 1);
-    }
-
-    private static void fault(String text, int place) {
-        due("fault in " + text, ground(new LongNoon(), text), -10 - place);
-    }
-
-    private static void fine(String text) {
-        due("fine " + text, ground(new LongNoon(), text), 0);
     }
 
     /** Whether the test holds of house 1 (GLASS, v 7, HEAT 39, its STORE holds 25) on moon 0: by its sun. */
@@ -1265,22 +1214,6 @@ public final class PromisesTest {
         due("place below", x.read(0, -1), NO);
         due("place beyond", x.read(0, 3), NO);
         due("place far beyond", x.read(0, MIN), NO);
-    }
-
-    private static LongNoon counted(int sort) {
-        LongNoon x = new LongNoon();
-        x.tape(0, sort, 5);
-        x.tape(1, sort, 3);
-        for (int i = 0; i < 5; i++) {
-            x.item(0, i, i + 1);
-        }
-        return x;
-    }
-
-    private static void row(LongNoon x, int tape, int... want) {
-        for (int i = 0; i < want.length; i++) {
-            due("item " + i, x.read(tape, i), want[i]);
-        }
     }
 
     private static void promise37() {
