@@ -64,6 +64,16 @@ public final class GroundsBoundsTest extends Due {
         feed(x, "ow 2");
         due("a ground", x.ground(), 1);
         due("low", x.told(3), 2);
+        // Nothing of a longer text is read behind the end of a shorter one.
+        String longer = "sun 12 (h=12&!k<34|m>5);high 67;low 89";
+        for (int k = 0; k <= longer.length(); k++) {
+            String shorter = longer.substring(0, k);
+            x = new LongNoon();
+            due("a fault", ground(x, longer + "x"), -10 - longer.length());
+            due(shorter, ground(x, shorter), ground(new LongNoon(), shorter));
+        }
+        due("a ground", ground(x, "low 7"), 1);
+        due("low", x.told(3), 7);
     }
 
     private static void clauses() {

@@ -204,6 +204,16 @@ public final class LeastBoundsTest extends Due {
         due("its own stays", x.of(1, 3), 20);
         due("its own stays", x.of(0, 2), 9);
         due("day", x.told(0), 0);
+        // Of a house that an undo() took nothing is left, though big() was asked with it.
+        x = with(STILL, HOUSE, 0, 40, 20);
+        x.set(0, 1, 5);
+        x.image();
+        x.house(HOUSE, 0, 199, 20);
+        x.set(1, 1, 7);
+        x.set(1, 2, 1);
+        big(x, 28, 40);
+        x.undo();
+        big(x, 0, 5);
     }
 
     private static void bigRules() {
